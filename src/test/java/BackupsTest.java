@@ -79,7 +79,6 @@ public final class BackupsTest {
         }
     }
 
-    /** A lone set from before the backup's start shows which page contents a restore began with. */
     private static void copyTakesTheDisk() {
         CHECK.part("promise 11, the disk's page");
         TornBackups x = new TornBackups();
@@ -88,22 +87,27 @@ public final class BackupsTest {
         x.backup();
         Steps.put(x, 0, 0, 7);
         Steps.put(x, 0, 31, 8);
+        Steps.copyPages(x, 8);
+        CHECK.due("start", x.bound(0, 0), 4);
+        CHECK.due("end: copy does not sync", x.bound(0, 1), 4);
+        CHECK.due("nor flush", x.dirty(), 2);
+        CHECK.due("restore(0, 4)", x.restore(0, 4), 0);
+        CHECK.due("restored(0): the disk's, not the memory's", x.restored(0), 5);
+        CHECK.due("restored(31)", x.restored(31), 6);
+        CHECK.due("the commits are not synced yet", x.sync(), 4);
+        x.backup();
+        Steps.put(x, 0, 0, 9);
+        Steps.put(x, 0, 31, 10);
         x.copy();
         x.flush(0);
         x.flush(7);
         Steps.copyPages(x, 7);
-        CHECK.due("copy does not flush or sync: start", x.bound(0, 0), 4);
-        CHECK.due("end", x.bound(0, 1), 8);
+        CHECK.due("end: a flush syncs", x.bound(1, 1), 12);
+        Steps.fillTo(x, 16);
         Steps.archiveAll(x);
-        CHECK.due("restore(0, 8)", x.restore(0, 8), 0);
-        CHECK.due("restored(0)", x.restored(0), 7);
-        CHECK.due("restored(31)", x.restored(31), 8);
-        x.set(1, 8, 8);
-        x.backup();
-        x.commit(1);
-        Steps.copyPages(x, 8);
-        CHECK.due("the commit is not synced yet", x.sync(), 1);
-        CHECK.due("nor flushed", x.dirty(), 1);
+        CHECK.due("restore(1, 12)", x.restore(1, 12), 0);
+        CHECK.due("restored(0)", x.restored(0), 9);
+        CHECK.due("restored(31)", x.restored(31), 10);
     }
 
     private static void forgetAnswers() {

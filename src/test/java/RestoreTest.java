@@ -10,12 +10,15 @@ public final class RestoreTest {
         openWhenTheBackupBegan();
         setsBeforeTheStart();
         abortsAndCrashesInTheLog();
+        startInAnotherSegment();
+        oneRestoreBehindAnother();
         refusedRestoreLeaves();
         wrongNumbers();
         restoredStays();
         replayedCounts();
         reachAnswers();
         reachWithGaps();
+        reachToTheEndItself();
         CHECK.finish();
     }
 
@@ -191,15 +194,64 @@ public final class RestoreTest {
         x.commit(0);
         x.set(1, 5, 15);
         x.commit(1);
+        x.set(1, 6, 16);
+        x.set(1, 7, 17);
+        x.abort(1);
+        x.set(1, 8, 18);
+        x.commit(1);
         Steps.fillTo(x, 16);
         Steps.archiveAll(x);
         CHECK.due("the RESTART", x.restore(0, 5), TornBackups.BETWEEN);
-        CHECK.due("the commit", x.restore(0, 9), 0);
+        CHECK.due("the commit", x.restore(0, 14), 0);
         CHECK.due("aborted", x.restored(1), 0);
         CHECK.due("open at the crash", x.restored(2), 0);
         CHECK.due("its commit was lost", x.restored(3), 0);
         CHECK.due("restored(4)", x.restored(4), 14);
         CHECK.due("restored(5)", x.restored(5), 15);
+        CHECK.due("aborted", x.restored(6), 0);
+        CHECK.due("aborted", x.restored(7), 0);
+        CHECK.due("restored(8)", x.restored(8), 18);
+    }
+
+    private static void startInAnotherSegment() {
+        CHECK.part("promise 16, start and end in two segments");
+        TornBackups x = new TornBackups();
+        x.set(0, 0, 1);
+        Steps.fillTo(x, 10);
+        Steps.wholeBackup(x);
+        x.commit(0);
+        x.set(0, 0, 2);
+        Steps.fillTo(x, 16);
+        Steps.archiveAll(x);
+        CHECK.due("start", x.bound(0, 0), 0);
+        CHECK.due("end", x.bound(0, 1), 10);
+        CHECK.due("restore(0, 11)", x.restore(0, 11), 0);
+        CHECK.due("restored(0)", x.restored(0), 1);
+        x.drop(0);
+        CHECK.due("the start's segment is gone", x.restore(0, 11), TornBackups.MISSING);
+        CHECK.due("reach(0)", x.reach(0), -1);
+    }
+
+    /** The first restore ends while transaction 0 is open: its set must not come into the second. */
+    private static void oneRestoreBehindAnother() {
+        CHECK.part("promise 16, one restore behind another");
+        TornBackups x = new TornBackups();
+        Steps.wholeBackup(x);
+        x.set(0, 1, 11);
+        Steps.put(x, 1, 2, 12);
+        x.abort(0);
+        Steps.wholeBackup(x);
+        Steps.put(x, 0, 3, 13);
+        Steps.fillTo(x, 8);
+        Steps.archiveAll(x);
+        CHECK.due("restore(0, 3)", x.restore(0, 3), 0);
+        CHECK.due("restored(1)", x.restored(1), 0);
+        CHECK.due("restore(1, 6)", x.restore(1, 6), 0);
+        CHECK.due("restored(1)", x.restored(1), 0);
+        CHECK.due("restored(2)", x.restored(2), 12);
+        CHECK.due("restored(3)", x.restored(3), 13);
+        CHECK.due("restore(0, 3)", x.restore(0, 3), 0);
+        CHECK.due("restored(3)", x.restored(3), 0);
     }
 
     private static void refusedRestoreLeaves() {
@@ -338,5 +390,21 @@ public final class RestoreTest {
         CHECK.due("segment 1 too", x.reach(0), 8);
         x.drop(0);
         CHECK.due("its start alone", x.reach(0), 0);
+    }
+
+    private static void reachToTheEndItself() {
+        CHECK.part("promise 19, the end");
+        TornBackups x = new TornBackups();
+        x.backup();
+        Steps.put(x, 0, 0, 1);
+        Steps.put(x, 0, 0, 2);
+        x.sync();
+        Steps.copyPages(x, 8);
+        Steps.fillTo(x, 8);
+        Steps.archiveAll(x);
+        CHECK.due("start", x.bound(0, 0), 0);
+        CHECK.due("end", x.bound(0, 1), 4);
+        CHECK.due("a commit was done at the end", x.reach(0), 4);
+        CHECK.due("one before it is early", x.restore(0, 2), TornBackups.EARLY);
     }
 }

@@ -11,14 +11,15 @@ final class Steps {
         return x.commit(transaction);
     }
 
-    /** Adds records that change nothing until the log has that many (at least two are added). */
+    /** Adds sets and aborts of transaction 2 until the log has that many records (two or more are added). */
     static void fillTo(TornBackups x, int position) {
-        while (position - x.position() > 5) {
+        int missing = position - x.position();
+        for (; missing > 5; missing -= 3) {
             x.set(2, 0, 0);
             x.set(2, 0, 0);
             x.abort(2);
         }
-        while (x.position() < position - 1) {
+        for (; missing > 1; missing--) {
             x.set(2, 0, 0);
         }
         x.abort(2);
